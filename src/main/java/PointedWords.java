@@ -192,10 +192,10 @@ public final class PointedWords {
         if (latestForm.size == 0) {
             return false;
         }
-        for (int s = 0; s < SEGMENT_COUNT; s++) {
+        message.row(0).become(latestForm);
+        for (int s = 1; s < SEGMENT_COUNT; s++) {
             message.row(s).size = 0;
         }
-        message.row(0).become(latestForm);
         endHandles();
         return true;
     }
@@ -250,7 +250,7 @@ public final class PointedWords {
             return (int) word & 3;
         }
 
-        /** A null pointer has the bits of a struct pointer, but is none. */
+        /** Of type 0 or 1; a null pointer has the bits of a struct pointer, but is none. */
         static boolean isStructOrList(long word) {
             return word != 0 && (word & 2) == 0;
         }
@@ -432,7 +432,7 @@ public final class PointedWords {
             return segments[segment];
         }
 
-        /** Whether so many words are there from the first one on; none may begin at the end, too. */
+        /** Whether so many words are there from the first one on; none may be at the end, too. */
         boolean hasWords(int segment, int first, int count) {
             if (segment < 0 || segment >= SEGMENT_COUNT) {
                 return false;

@@ -59,9 +59,24 @@ public final class FindingTest {
             int most = (1 << 29) - 1;
             dueBehindRoot(of + "the most", Checks.BOUNDS, Build.list(0, kind, most), -1);
         }
+        for (int kind = 1; kind < 7; kind++) {
+            int inAll = 64 * 64 / bits[kind];
+            PointedWords all = fullSegment(Build.list(-2, kind, inAll));
+            due("all words, kind " + kind, Checks.STATE, all);
+            PointedWords more = fullSegment(Build.list(-2, kind, inAll + 1));
+            due("more than all words, kind " + kind, Checks.BOUNDS, more);
+        }
         dueBehindRoot("kind 0 needs no words", "1", Build.list(0, 0, 62));
         dueBehindRoot("kind 0, behind the end", Checks.BOUNDS, Build.list(1, 0, 1));
         dueBehindRoot("kind 0, the most", Checks.STATE, Build.list(0, 0, (1 << 29) - 1));
+    }
+
+    private static PointedWords fullSegment(long pointer) {
+        PointedWords x = Build.behindRoot(pointer);
+        for (int i = 2; i < 64; i++) {
+            x.add(0, i);
+        }
+        return x;
     }
 
     private static void structLists() {
@@ -130,7 +145,7 @@ public final class FindingTest {
         Checks.due("its begin", 1, () -> x.about(1, 5));
         long struct = Build.struct(0, 1, 0);
         due("of two, a list", "1", withTwo(Build.far(3, 0), Build.list(-9, 5, 3)));
-        due("of two, a list too long", Checks.BOUNDS, withTwo(Build.far(3, 0), Build.list(0, 5, 4)));
+        due("of two, a long list", Checks.BOUNDS, withTwo(Build.far(3, 0), Build.list(0, 5, 4)));
         due("of two, no words, at the end", "1", withTwo(Build.far(3, 3), Build.struct(5, 0, 0)));
         due("of two, behind", Checks.BOUNDS, withTwo(Build.far(3, 4), Build.struct(5, 0, 0)));
         due("of two, too long", Checks.BOUNDS, withTwo(Build.far(3, 3), struct));

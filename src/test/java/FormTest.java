@@ -7,6 +7,7 @@ public final class FormTest {
         pointerLists();
         structLists();
         orderOfWriting();
+        orderAmongSegments();
         budgets();
         whatIsWrongFirst();
         formsStay();
@@ -58,7 +59,8 @@ public final class FormTest {
         due("data and pointers", Build.message(Build.struct(1, 2, 2), 99, 3, 0, empty, 0),
                 Build.struct(0, 1, 1), 3, empty);
         due("an empty struct that is not the last",
-                Build.message(Build.struct(0, 0, 2), Build.struct(1, 1, 0), Build.struct(0, 1, 0), 6),
+                Build.message(Build.struct(0, 0, 2), Build.struct(1, 1, 0),
+                        Build.struct(0, 1, 0), 6),
                 Build.struct(0, 0, 2), Build.struct(1, 1, 0), Build.struct(1, 1, 0), 6, 6);
     }
 
@@ -81,6 +83,8 @@ public final class FormTest {
                     Build.behindRoot(Build.list(2, kind, 0), 5, 5),
                     Build.struct(0, 0, 1), Build.list(0, kind, 0));
         }
+        due("kind 1, one bit that is none", Build.behindRoot(Build.list(0, 1, 63), -1),
+                Build.struct(0, 0, 1), Build.list(0, 1, 63), Long.MAX_VALUE);
         due("kind 0", Build.behindRoot(Build.list(-2, 0, 9)),
                 Build.struct(0, 0, 1), Build.list(0, 0, 9));
         // b of lists without words is the word that would come next, wherever the pointer is.
@@ -133,7 +137,8 @@ public final class FormTest {
         // Each pointer with all that it leads to, before the next one; shared objects are written
         // for each pointer.
         due("a tree",
-                Build.message(Build.struct(0, 1, 2), 1, Build.struct(1, 0, 2), Build.struct(4, 1, 0),
+                Build.message(Build.struct(0, 1, 2),
+                        1, Build.struct(1, 0, 2), Build.struct(4, 1, 0),
                         Build.struct(1, 1, 1), Build.struct(2, 1, 0), 4, empty, 9),
                 Build.struct(0, 1, 2), 1, Build.struct(1, 0, 2), Build.struct(5, 1, 0),
                 Build.struct(1, 1, 1), Build.struct(2, 1, 0), 4, empty, 9, 9);
@@ -143,6 +148,25 @@ public final class FormTest {
                 Build.struct(0, 0, 1), Build.list(0, 7, 2), Build.tag(2, 0, 1),
                 Build.struct(1, 1, 1), Build.struct(3, 1, 0),
                 6, Build.list(0, 5, 1), 6, 5);
+    }
+
+    /** What comes behind an object goes on in its own segment and at its own depth. */
+    private static void orderAmongSegments() {
+        PointedWords x = Build.message(Build.struct(0, 0, 3), Build.far(1, 0), Build.list(2, 5, 1),
+                Build.far(1, 0), 0, 10);
+        Build.addAll(x, 1, Build.struct(0, 1, 2), 11, Build.far(2, 0), Build.struct(0, 1, 0), 12);
+        Build.addAll(x, 2, Build.struct(0, 1, 1), 13, Build.far(3, 0));
+        Build.addAll(x, 3, Build.list(0, 6, 2), Build.struct(1, 1, 0), Build.struct(0, 1, 0), 14);
+        due("a tree among segments", x,
+                Build.struct(0, 0, 3),
+                Build.struct(2, 1, 2), Build.list(11, 5, 1), Build.struct(11, 1, 2),
+                11, Build.struct(1, 1, 1), Build.struct(6, 1, 0),
+                13, Build.list(0, 6, 2), Build.struct(1, 1, 0), Build.struct(1, 1, 0), 14, 14,
+                12,
+                10,
+                11, Build.struct(1, 1, 1), Build.struct(6, 1, 0),
+                13, Build.list(0, 6, 2), Build.struct(1, 1, 0), Build.struct(1, 1, 0), 14, 14,
+                12);
     }
 
     private static void budgets() {
@@ -214,6 +238,10 @@ public final class FormTest {
         x.change(0, 2, 0);
         Checks.due("a new form", 3, () -> x.form());
         Checks.due("is the latest", 44, () -> x.formed(2));
+        x.change(0, 0, Build.struct(2, 1, 0));
+        Checks.due("a shorter form", 2, () -> x.form());
+        Checks.due("has the word of the struct", 44, () -> x.formed(1));
+        Checks.due("and nothing of the longer one", 0, () -> x.formed(2));
     }
 
     private static void adopting() {
@@ -274,5 +302,29 @@ public final class FormTest {
         Checks.due("same is as before", false, x.same());
         Checks.due("keep is of the latest form", true, x.keep());
         Checks.due("same at last", true, x.same());
+        long empty = Build.struct(-1, 0, 0);
+        PointedWords y = Build.message(empty);
+        y.form();
+        y.keep();
+        Checks.due("same of one word", true, y.same());
+        y.change(0, 0, Build.struct(0, 1, 0));
+        y.add(0, empty);
+        y.form();
+        y.keep();
+        y.change(0, 0, Build.struct(0, 0, 1));
+        y.form();
+        Checks.due("the same words, but one is a pointer", false, y.same());
+        PointedWords z = Build.message(Build.struct(0, 2, 0), 5, 6);
+        z.form();
+        z.keep();
+        z.change(0, 2, 0);
+        z.form();
+        z.keep();
+        z.change(0, 0, Build.struct(2, 2, 0));
+        Build.addAll(z, 0, 5, 7);
+        z.form();
+        z.change(0, 4, 0);
+        z.form();
+        Checks.due("what longer forms had does not count", true, z.same());
     }
 }

@@ -7,6 +7,7 @@ public final class HandleTest {
         elements();
         sixteenHandles();
         parts();
+        handlesUsedAgain();
         dataOfStructs();
         dataOfLists();
         dataOfOthers();
@@ -172,6 +173,35 @@ public final class HandleTest {
         wide.open();
         wide.go(0, 0);
         dueParts("no elements", wide, 1, 8, 0, 65534, 65535, 0, 3, 2);
+    }
+
+    /** Nothing of what a handle stood for before is told of what it stands for now. */
+    private static void handlesUsedAgain() {
+        PointedWords x = Build.message(Build.struct(0, 0, 4), Build.far(1, 0), Build.list(2, 5, 2),
+                Build.struct(1, 1, 1), Build.far(2, 0), 8, 0);
+        Build.addAll(x, 1, Build.list(0, 7, 6), Build.tag(2, 2, 1), 1, 2, 0, 3, 4, 0);
+        Build.addAll(x, 2, Build.list(0, 6, 2), 0, 0);
+        for (int before = 0; before < 4; before++) {
+            dueAgain(x, before, 0, 8, 2, 1, 2, 1, 2, 2);
+            dueAgain(x, before, 1, 6, 2, 0, 0, 0, 5, 2);
+            dueAgain(x, before, 2, 0, 1, 1, 0, 0, 5, 2);
+            dueAgain(x, before, 3, 7, 2, 0, 0, 2, 1, 2);
+            x.open();
+            x.go(0, before);
+            x.go(0, before);
+            x.open();
+            x.go(0, 0);
+            x.element(1, 1);
+            dueParts("an element, its handle used again", x, 2, 0, 2, 1, 0, 1, 5, 2);
+        }
+    }
+
+    private static void dueAgain(PointedWords x, int before, int k, int... parts) {
+        x.open();
+        x.go(0, before);
+        x.open();
+        x.go(0, k);
+        dueParts("what pointer " + k + " leads to, its handle used again", x, 1, parts);
     }
 
     private static void dataOfStructs() {

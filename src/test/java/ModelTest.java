@@ -164,7 +164,7 @@ public final class ModelTest {
         int kind = shape < 3 ? -1 : shape - 3;
         int d = random.nextInt(3);
         int p = depth >= most ? 0 : random.nextInt(3);
-        int n = kind > 0 && kind < 5 ? random.nextInt(20) : random.nextInt(4);
+        int n = random.nextInt(kind == 1 ? 140 : kind > 0 && kind < 5 ? 20 : 4);
         int[] bits = {0, 1, 8, 16, 32, 64, 64};
         int spare = random.nextInt(6) == 0 ? 1 : 0;
         int size = kind < 0 ? d + p
@@ -174,7 +174,9 @@ public final class ModelTest {
         if (first < 0) {
             return;
         }
-        long pointer = kind < 0 ? Build.struct(0, d, p) : Build.list(0, kind, kind == 7 ? size - 1 : n);
+        long pointer = kind < 0
+                ? Build.struct(0, d, p)
+                : Build.list(0, kind, kind == 7 ? size - 1 : n);
         if (!lead(rows, sizes, at, s, first, pointer)) {
             return;
         }
