@@ -43,6 +43,24 @@ final class Build {
         return x;
     }
 
+    /** Adds words, each being its number, until the segment has as many as are asked for. */
+    static PointedWords upTo(int count, PointedWords x, int segment) {
+        for (int i = x.words(segment); i < count; i++) {
+            x.add(segment, i);
+        }
+        return x;
+    }
+
+    /** Structs of one pointer, each leading to the next one; then other words. */
+    static PointedWords chain(int structs, long... others) {
+        PointedWords x = new PointedWords();
+        for (int i = 0; i < structs; i++) {
+            x.add(0, struct(0, 0, 1));
+        }
+        addAll(x, 0, others);
+        return x;
+    }
+
     private static long bits(long value, int first, int count) {
         return (value & ((1L << count) - 1)) << first;
     }

@@ -15,6 +15,7 @@ final class Checks {
 
     private static int right = 0;
     private static int wrong = 0;
+    private static String sentence = "";
 
     private Checks() {}
 
@@ -24,7 +25,16 @@ final class Checks {
             return;
         }
         wrong++;
-        System.out.println(what + " answered " + got + ", due is " + want);
+        System.out.println(sentence + what + " answered " + got + ", due is " + want);
+    }
+
+    /** What is told from now on is told with the sentence of the document that it belongs to. */
+    static void tellWith(String words) {
+        sentence = words;
+    }
+
+    static int made() {
+        return right + wrong;
     }
 
     static void due(String what, long want, Call call) {

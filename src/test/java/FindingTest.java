@@ -179,11 +179,11 @@ public final class FindingTest {
         // The words come before the budget.
         dueBehindRoot("64 words that are not there", Checks.BOUNDS, Build.struct(0, 64, 0));
         // The tag comes before the depth.
-        PointedWords deep = chain(8, Build.list(0, 7, 0), 3);
+        PointedWords deep = Build.chain(8, Build.list(0, 7, 0), 3);
         openDown(deep, 8);
         Checks.due("a wrong tag too deep", Checks.ARGUMENT, () -> deep.go(7, 0));
         Checks.due("a wrong tag too deep, form", Checks.ARGUMENT, () -> deep.form());
-        PointedWords away = chain(8, Build.struct(0, 1, 0));
+        PointedWords away = Build.chain(8, Build.struct(0, 1, 0));
         openDown(away, 8);
         Checks.due("out of bounds too deep", Checks.BOUNDS, () -> away.go(7, 0));
         Checks.due("out of bounds too deep, form", Checks.BOUNDS, () -> away.form());
@@ -223,16 +223,6 @@ public final class FindingTest {
         due("more than was left", Checks.STATE, refused);
     }
 
-    /** So many structs, each with a pointer to the next one, and the words behind the last one. */
-    private static PointedWords chain(int structs, long... last) {
-        PointedWords x = new PointedWords();
-        for (int i = 0; i < structs; i++) {
-            x.add(0, Build.struct(0, 0, 1));
-        }
-        Build.addAll(x, 0, last);
-        return x;
-    }
-
     private static void openDown(PointedWords x, int depth) {
         x.open();
         for (int d = 1; d < depth; d++) {
@@ -244,11 +234,11 @@ public final class FindingTest {
     }
 
     private static void depths() {
-        PointedWords x = chain(8, 0);
+        PointedWords x = Build.chain(8, 0);
         openDown(x, 8);
         Checks.due("null below depth 8", PointedWords.NONE, () -> x.go(7, 0));
         Checks.due("form of depth 8", 8, () -> x.form());
-        PointedWords deep = chain(8, Build.struct(-1, 0, 0));
+        PointedWords deep = Build.chain(8, Build.struct(-1, 0, 0));
         openDown(deep, 8);
         Checks.due("depth 9", Checks.STATE, () -> deep.go(7, 0));
         Checks.due("depth 9 takes nothing", 55, () -> deep.left());
@@ -256,11 +246,11 @@ public final class FindingTest {
         Checks.due("form of depth 9", Checks.STATE, () -> deep.form());
         Checks.due("there is no form", 0, () -> deep.formed(0));
         Checks.due("depth 9 by a list", Checks.STATE, () -> {
-            PointedWords list = chain(8, Build.list(0, 0, 0));
+            PointedWords list = Build.chain(8, Build.list(0, 0, 0));
             return list.form();
         });
         // An element has its list's depth, so that the list may be of depth 8.
-        PointedWords list = chain(7, Build.list(0, 7, 1), Build.tag(1, 0, 1), 0);
+        PointedWords list = Build.chain(7, Build.list(0, 7, 1), Build.tag(1, 0, 1), 0);
         openDown(list, 8);
         Checks.due("an element at depth 8", 8, () -> list.element(7, 0));
         Checks.due("its depth", 8, () -> list.about(8, 6));

@@ -30,28 +30,31 @@ public final class MessageTest {
         Checks.due("left() of it", 0, () -> x.left());
     }
 
+    /** Two objects, since what one answers after 512 calls is free. */
     private static void addition() {
+        addedTo(0, 1);
+        addedTo(2, 3);
+    }
+
+    private static void addedTo(int... segments) {
         PointedWords x = new PointedWords();
-        for (int s = 0; s < 4; s++) {
-            int segment = s;
+        for (int s : segments) {
             for (int i = 0; i < 64; i++) {
                 long word = 1000L * s + i - 7;
-                Checks.due("add", i, () -> x.add(segment, word));
-                Checks.due("words", i + 1, () -> x.words(segment));
+                Checks.due("add", i, () -> x.add(s, word));
+                Checks.due("words", i + 1, () -> x.words(s));
             }
-            Checks.due("a 65th word", PointedWords.NONE, () -> x.add(segment, 1));
-            Checks.due("words of a full segment", 64, () -> x.words(segment));
+            Checks.due("a 65th word", PointedWords.NONE, () -> x.add(s, 1));
+            Checks.due("words of a full segment", 64, () -> x.words(s));
         }
-        for (int s = 0; s < 4; s++) {
+        for (int s : segments) {
             for (int i = 0; i < 64; i++) {
-                int segment = s;
                 int number = i;
-                Checks.due("word", 1000L * s + i - 7, () -> x.word(segment, number));
+                Checks.due("word", 1000L * s + i - 7, () -> x.word(s, number));
             }
-            int segment = s;
-            Checks.due("word 64", 0, () -> x.word(segment, 64));
-            Checks.due("word -1", 0, () -> x.word(segment, -1));
-            Checks.due("word far off", 0, () -> x.word(segment, Integer.MIN_VALUE));
+            Checks.due("word 64", 0, () -> x.word(s, 64));
+            Checks.due("word -1", 0, () -> x.word(s, -1));
+            Checks.due("word far off", 0, () -> x.word(s, Integer.MIN_VALUE));
         }
         for (int s : new int[] {-1, 4, Integer.MAX_VALUE, Integer.MIN_VALUE}) {
             Checks.due("add, no segment", PointedWords.NONE, () -> x.add(s, 1));
