@@ -582,7 +582,7 @@ public final class PointedWords {
             if (!hasWords(list.segment, list.begin, n + 1)) {
                 throw new IndexOutOfBoundsException("a list that is not within its segment");
             }
-            long tag = row(list.segment).at(list.begin);
+            long tag = at(list.segment, list.begin);
             if (Bits.type(tag) != Bits.TO_STRUCT) {
                 throw new IllegalArgumentException("a tag that is none");
             }

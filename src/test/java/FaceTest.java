@@ -1,7 +1,10 @@
+import java.io.IOException;
 import java.lang.reflect.Constructor;
 import java.lang.reflect.Field;
 import java.lang.reflect.Method;
 import java.lang.reflect.Modifier;
+import java.nio.file.Files;
+import java.nio.file.Path;
 import java.util.ArrayList;
 import java.util.Arrays;
 import java.util.Collections;
@@ -38,7 +41,13 @@ public final class FaceTest {
         "public boolean same()",
     };
 
-    public static void main(String[] args) {
+    private static final Path DOCUMENT = Path.of("../shared/DOC.md");
+
+    public static void main(String[] args) throws IOException {
+        if (Files.exists(DOCUMENT)) {
+            Checks.due("the face, as the document writes it", String.join("; ", FACE),
+                    String.join("; ", documentFace()));
+        }
         Class<?> c = PointedWords.class;
         List<String> members = new ArrayList<>();
         for (Field f : c.getDeclaredFields()) {
@@ -78,6 +87,18 @@ public final class FaceTest {
         Checks.due("other methods that bear a public name", "[]", privateNames.toString());
         Checks.due("NONE", -1, () -> PointedWords.NONE);
         Checks.end();
+    }
+
+    /** The lines of the document's class, without the names of parameters and NONE's value. */
+    private static List<String> documentFace() throws IOException {
+        List<String> face = new ArrayList<>();
+        for (String line : Files.readAllLines(DOCUMENT)) {
+            if (line.startsWith("    public ")) {
+                String plain = line.strip().replace(" = -1", "").replace(";", "");
+                face.add(plain.replaceAll("(int|long) \\w+([,)])", "$1$2"));
+            }
+        }
+        return face;
     }
 
     private static String names(Class<?>[] types) {
